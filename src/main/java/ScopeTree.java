@@ -45,10 +45,9 @@ public final class ScopeTree {
         typeCount = PLATFORM_NAMES;
         Scope top = new Scope(null);
         top.state = State.LOCKED;
-        top.baseLoader = root;
+        // Scope 0 holds the root as its export and its local loader; it has no E.
         top.exportLoader = root;
         top.localLoader = root;
-        // Scope 0 holds the root as its export and its local loader, but not as an E.
         root.holders = 2;
         scopes[0] = top;
         scopeCount = 1;

@@ -4,6 +4,10 @@ final class Check {
         void make();
     }
 
+    interface CallWith {
+        void make(int number);
+    }
+
     private static int wrong = 0;
 
     private Check() {
@@ -40,7 +44,31 @@ final class Check {
         thrown(what, call, UnsupportedOperationException.class);
     }
 
-    private static void thrown(String what, Call call, Class<? extends RuntimeException> due) {
+    static void badArguments(String what, int lowest, int highest, CallWith call) {
+        for (int number : outside(lowest, highest)) {
+            badArgument(what + " " + number, () -> call.make(number));
+        }
+    }
+
+    static void allMissing(String what, int lowest, int highest, CallWith call) {
+        for (int number : outside(lowest, highest)) {
+            missing(what + " " + number, () -> call.make(number));
+        }
+    }
+
+    /**
+     * Numbers that are not lowest .. highest: its two neighbours first, then the ends of int, and
+     * such as a mask, a shift or a narrow type would bring back inside.
+     */
+    static int[] outside(int lowest, int highest) {
+        return java.util.stream.IntStream
+                .of(lowest - 1, highest + 1, Integer.MIN_VALUE, Integer.MAX_VALUE, Integer.MIN_VALUE + lowest,
+                        lowest + 32, lowest + 64, lowest + 256, lowest + 65536, -highest, ~lowest)
+                .filter(number -> number < lowest || number > highest)
+                .toArray();
+    }
+
+    static void thrown(String what, Call call, Class<? extends RuntimeException> due) {
         Class<?> got = null;
         try {
             call.make();
