@@ -7,22 +7,27 @@ import java.util.TreeSet;
 
 /** The public face, and what LANGUAGE.md asks of the members (its rules 1 and 5). */
 public final class FaceTest {
+    private static final String ARGUMENT = " IllegalArgumentException";
+    private static final String STATE = " IllegalStateException";
+    private static final String MISSING = " NoSuchElementException";
+    private static final String REFUSED = " UnsupportedOperationException";
+
     private static final Set<String> FACE = Set.of(
-            "int file(int,int,int,int)",
-            "int descriptor(int,int,int)",
-            "void wipe(int)",
-            "int child(int)",
-            "boolean add(int,int,boolean)",
-            "void filter(int,int,long,long)",
-            "int lock(int)",
-            "int release(int)",
-            "int loader(int,boolean)",
+            "int file(int,int,int,int) throws" + ARGUMENT + STATE,
+            "int descriptor(int,int,int) throws" + ARGUMENT + STATE,
+            "void wipe(int) throws" + ARGUMENT,
+            "int child(int) throws" + ARGUMENT + STATE,
+            "boolean add(int,int,boolean) throws" + ARGUMENT + STATE,
+            "void filter(int,int,long,long) throws" + ARGUMENT + STATE,
+            "int lock(int) throws" + ARGUMENT + STATE + REFUSED,
+            "int release(int) throws" + ARGUMENT + STATE,
+            "int loader(int,boolean) throws" + ARGUMENT,
             "int look(int,int)",
-            "int load(int,int)",
-            "int info(int,int)",
-            "boolean isA(int,int)",
-            "int apply(int,int)",
-            "int applied(int,int)");
+            "int load(int,int) throws" + ARGUMENT + STATE + MISSING + REFUSED,
+            "int info(int,int) throws" + MISSING,
+            "boolean isA(int,int) throws" + MISSING,
+            "int apply(int,int) throws" + ARGUMENT + STATE + MISSING + REFUSED,
+            "int applied(int,int) throws" + ARGUMENT);
 
     public static void main(String[] args) {
         Class<?> face = ScopeTree.class;
@@ -70,6 +75,10 @@ public final class FaceTest {
         for (Class<?> parameter : method.getParameterTypes()) {
             text.append(text.charAt(text.length() - 1) == '(' ? "" : ",").append(parameter);
         }
-        return text.append(')').toString();
+        text.append(')');
+        for (Class<?> thrown : method.getExceptionTypes()) {
+            text.append(text.charAt(text.length() - 1) == ')' ? " throws " : " ").append(thrown.getSimpleName());
+        }
+        return text.toString();
     }
 }

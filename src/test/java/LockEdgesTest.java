@@ -495,7 +495,7 @@ public final class LockEdgesTest {
         Check.is("it has defined none", x.look(0, 3), 0);
     }
 
-    // "how many hold it (loaders and scopes, these once for each of E, export and local loader that it is)"
+    // "how many hold it (loaders and scopes, these once for each of E, export and local loader that it is .."
     private static void lookAtHolders() {
         ScopeTree x = new ScopeTree();
         x.child(0);
